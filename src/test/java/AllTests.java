@@ -9,6 +9,7 @@ public final class AllTests {
         new TextTests(check).run();
         new LookTests(check).run();
         new DigestTests(check).run();
+        new WildTests(check).run();
         new RandomRuns(check).run();
         if (arguments.length > 0) {
             new FaceTests(check).run(arguments[0]);

@@ -29,7 +29,19 @@ final class DigestTests {
         check.same("again", x.digest(), digestOf(x, "0/z~!"));
         x.callOff(0);
         check.same("called off", x.digest(), digestOf(x, "0/z~!"));
+        fromZero();
         shares();
+    }
+
+    /** A start at 0 leaves room on the screen 2, a start at 1 does not. */
+    private void fromZero() {
+        ReelScreens x = new ReelScreens();
+        x.film(1, 10);
+        x.film(1, 10);
+        x.show(0, 2, 25, 0);
+        check.same("from 0", x.bestScreen(1, 0), 2);
+        check.same("from 1", x.bestScreen(1, 1), 1);
+        check.same("from 0", x.digest(), digestOf(x, ""));
     }
 
     /** The bits of many shares: each use from one film to a screen that is full. */

@@ -12,6 +12,7 @@ final class LookTests {
         reel();
         runs();
         screen();
+        screenOfLast();
         count();
         whyNot();
         whyNotTheLowest();
@@ -130,6 +131,17 @@ final class LookTests {
         check.refused("what 5", x, Check.ARGUMENT, () -> x.screen(0, 5));
     }
 
+    private void screenOfLast() {
+        ReelScreens x = new ReelScreens();
+        x.film(1, 10);
+        x.show(0, 1, 1500, 0);
+        x.show(0, 1, 1000, 20);
+        x.show(0, 1, 100, 0);
+        check.same("the last one is not the latest made", x.screen(1, 4), 1510);
+        x.callOff(0);
+        check.same("the end has the break", x.screen(1, 4), 1030);
+    }
+
     private void count() {
         check.at("promise 26");
         ReelScreens x = new ReelScreens();
@@ -206,6 +218,9 @@ final class LookTests {
         same(x, new int[] {0, 0, 90, 0}, 3, 0, -1);
         same(x, new int[] {1, 0, 120, 0}, 3, 0, -1);
         same(x, new int[] {1, 0, 115, 0}, 3, 1, -1);
+        same(x, new int[] {1, 0, 115, 1}, 3, 0, -1);
+        same(x, new int[] {1, 0, 75, 1}, 3, 1, -1);
+        same(x, new int[] {1, 0, 75, 0}, 0, -1, -1);
         x.set(1, 0);
         same(x, new int[] {1, 0, 105, 0}, 3, 1, -1);
         ReelScreens y = new ReelScreens();
@@ -234,6 +249,7 @@ final class LookTests {
         check.same("a shorter film", x.nextStart(1, 1, 0), 0);
         check.same("reels", x.nextStart(0, 1, 0), 0);
         check.same("reels", x.nextStart(0, 1, 1), 45);
+        nextStartByReels();
         check.same("nothing is changed", x.count(1) + x.count(11), 4);
         x.show(1, 0, 1980, 0);
         check.same("none is free", x.nextStart(1, 0, 1956), -1);
@@ -244,6 +260,26 @@ final class LookTests {
         check.refused("screen 3 at a wrong minute", x, Check.INDEX, () -> x.nextStart(0, 3, 2000));
         check.refused("from -1", x, Check.ARGUMENT, () -> x.nextStart(0, 0, -1));
         check.refused("from 2000", x, Check.ARGUMENT, () -> x.nextStart(0, 0, 2000));
+    }
+
+    private void nextStartByReels() {
+        ReelScreens x = new ReelScreens();
+        x.film(2, 10);
+        x.show(0, 0, 100, 0);
+        check.same("just ahead", x.nextStart(0, 1, 80), 80);
+        check.same("behind both reels", x.nextStart(0, 1, 81), 120);
+        x.set(0, 60);
+        check.same("just ahead", x.nextStart(0, 1, 30), 30);
+        check.same("behind both reels", x.nextStart(0, 1, 31), 170);
+        ReelScreens y = new ReelScreens();
+        y.film(2, 10);
+        y.set(0, 0);
+        y.show(0, 0, 100, 20);
+        check.same("between its reels", y.nextStart(0, 1, 91), 110);
+        check.same("between its reels", y.nextStart(0, 1, 109), 110);
+        check.same("the second reel is free", y.nextStart(0, 1, 110), 110);
+        check.same("the second reel is not", y.nextStart(0, 1, 111), 130);
+        check.same("the last minute of the second reel", y.nextStart(0, 1, 129), 130);
     }
 
     private void nextStartBetween() {
@@ -314,6 +350,7 @@ final class LookTests {
         check.same("refused by the screen", x.ifShown(0, 1, 105), -1);
         check.same("refused by the reel", x.ifShown(0, 0, 105), -1);
         check.same("too late", x.ifShown(0, 0, 1991), -1);
+        check.same("just not too late", x.ifShown(0, 0, 1990), 0);
         check.refused("film -1", x, Check.INDEX, () -> x.ifShown(-1, 0, 0));
         check.refused("film 2 at a wrong start", x, Check.INDEX, () -> x.ifShown(2, 0, -1));
         check.refused("screen -1", x, Check.INDEX, () -> x.ifShown(0, -1, 0));

@@ -195,6 +195,9 @@ final class PeopleTests {
         x.attend(0, 0);
         x.vote(0, 0, 10);
         check.same("one juror is too few", x.count(6), -1);
+        x.attend(1, 0);
+        check.same("two jurors are enough", x.count(6), 0);
+        x.undo();
         x.attend(0, 1);
         x.attend(1, 1);
         check.same("no points", x.count(6), 1);

@@ -58,7 +58,7 @@ final class TextTests {
         }
         // Each is wrong at its last character, and stays so whatever comes behind it.
         String[] wrong = {"8", "/", "a", ";", "+", "@", "00", "0;", "0/3", "0//", "0/-", "0/0/", "0/0;", "0/00",
-            "0/0@-", "0/0@;", "0/0@+", "0/0@00", "0/0@01", "0/0@2000", "0/0@10000", "0/0@1/", "0/0@1@", "0/0@0:",
+            "0/0@-", "0/0@:", "0/0@1:", "0/0@5+:", "0/0@5+1:", "0/0@;", "0/0@+", "0/0@00", "0/0@01", "0/0@2000", "0/0@10000", "0/0@1/", "0/0@1@", "0/0@0:",
             "0/0@5++", "0/0@5+;", "0/0@5+-", "0/0@5+00", "0/0@5+01", "0/0@5+21", "0/0@5+30", "0/0@5+200",
             "0/0@5+2+", "0/0@5+2@", "0/0@5+2:", "0/0@5;;", "0/0@5;8", "0/0@5+1;/", "0/0@5;0/0@5;9"};
         for (String text : wrong) {
@@ -86,10 +86,10 @@ final class TextTests {
         ReelScreens x = new ReelScreens();
         x.film(1, 10);
         x.film(2, 12);
-        PlanTests.write(x, "0/0@1990;1/1@100+20;0/2@7+9;1/0@300");
+        PlanTests.write(x, "0/0@1990;1/1@100+13;0/2@7+9;1/0@300");
         check.same("program", x.program(), 4);
         check.same("the buffer is clear", x.clearBuffer(), 0);
-        int[][] showings = {{0, 0, 1990, 2000, 0, 0}, {1, 1, 100, 144, 20, 0}, {0, 2, 7, 26, 9, 0},
+        int[][] showings = {{0, 0, 1990, 2000, 0, 0}, {1, 1, 100, 137, 13, 0}, {0, 2, 7, 26, 9, 0},
             {1, 0, 300, 324, 0, 0}};
         for (int showing = 0; showing < showings.length; showing++) {
             for (int what = 0; what <= 5; what++) {
@@ -120,7 +120,9 @@ final class TextTests {
         check.same("reason", x.stopped(1), 5);
         check.same("in its way", x.stopped(2), -1);
         check.same("saved also if none is made", x.undo(), 2);
+        check.same("the part before", x.stopped(0), 1);
         check.same("the stop before", x.stopped(1), 3);
+        check.same("what was in its way before", x.stopped(2), 0);
         PlanTests.write(x, "0/1@500;0/2@1991");
         check.same("too late", x.program(), 1);
         check.same("part", x.stopped(0), 1);
