@@ -610,11 +610,13 @@ public final class ReelScreens {
         }
 
         void dropRow(int row) {
-            if (row < 0 || row >= rows || rows * columns > cells.length) {
+            if (row < 0 || row >= rows) {
                 return;
             }
-            for (int place = row * columns; place >= 0 && place + columns < rows * columns; place++) {
-                cells[place] = cells[place + columns];
+            for (int into = row; into + 1 < rows; into++) {
+                for (int column = 0; column < columns; column++) {
+                    put(into, column, at(into + 1, column));
+                }
             }
             rows--;
         }
