@@ -362,6 +362,11 @@ final class EdgePlan {
             int at = start;
             e.answers("its own time does not stand in its way, " + start, maker, x -> x.move(0, at));
         }
+        // The showing 3 has the film 2 on the screen 0, the showing 2 the film 0 on the screen 2.
+        e.answers("15 minutes behind the first", maker, x -> x.move(3, 140));
+        e.refused("by the reason 3, of a film and a screen that differ", Check.STATE, maker, x -> x.move(3, 139));
+        e.answers("10 minutes for the reels", maker, x -> x.move(2, 125));
+        e.refused("by the reason 4, of a film and a screen that differ", Check.STATE, maker, x -> x.move(2, 124));
         e.answers("there are 12", Makers::twelveShowings, x -> x.move(11, 1500));
         e.refused("there are 12, by the reason 3", Check.STATE, Makers::twelveShowings, x -> x.move(11, 1020));
     }

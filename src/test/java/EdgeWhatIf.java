@@ -154,7 +154,8 @@ final class EdgeWhatIf {
     }
 
     private void theFirstStart() {
-        Edges.Maker[] makers = {Makers::rich, Makers::eightFilms, () -> Makers.shownAt(100, 115, 130, 200, 240)};
+        Edges.Maker[] makers = {Makers::rich, Makers::eightFilms, () -> Makers.shownAt(100, 115, 130, 200, 240),
+            () -> withBreaks(0, 0), () -> withBreaks(10, 15), () -> withBreaks(60, 0), () -> withBreaks(0, 60)};
         for (Edges.Maker maker : makers) {
             ReelScreens x = maker.make();
             for (int film = 0; film < 3; film++) {
@@ -177,6 +178,23 @@ final class EdgeWhatIf {
         e.same("behind the turnaround", y.nextStart(0, 0, 0), 90);
         y.set(0, 60);
         e.same("behind the carrying", y.nextStart(0, 1, 0), 90);
+    }
+
+    /** Films of several reels, shown with breaks, so that the reels of one run between those of another. */
+    private static ReelScreens withBreaks(int carrying, int turnaround) {
+        ReelScreens x = Makers.empty();
+        x.film(6, 10);
+        x.film(3, 12);
+        x.film(2, 25);
+        x.show(0, 0, 200, 20);
+        x.show(1, 1, 150, 7);
+        x.show(2, 2, 300, 20);
+        x.show(0, 1, 500, 1);
+        x.show(1, 2, 640, 20);
+        x.show(2, 0, 700, 3);
+        x.set(0, carrying);
+        x.set(1, turnaround);
+        return x;
     }
 
     private void noStart() {
@@ -374,6 +392,28 @@ final class EdgeWhatIf {
         }
         e.same("60 codes", Makers.sixtyCodes().digest(), hashOf(valuesOf(Makers.sixtyCodes(), codes.toString())));
         e.look(Makers::rich, ReelScreens::digest);
+        e.same("edges of hundreds", edgesOfHundreds().digest(), hashOf(valuesOf(edgesOfHundreds(), "")));
+        ReelScreens x = Makers.empty();
+        x.film(5, 25);
+        for (int showings = 1; showings <= 10; showings++) {
+            // 1, 2, 4 and 8 showings use a 16th, an 8th, a quarter and a half of the minutes.
+            x.show(0, 1, 140 * (showings - 1), 0);
+            e.same("use by " + 125 * showings + " minutes", x.digest(), hashOf(valuesOf(x, "")));
+        }
+    }
+
+    /** Reels that run at one of the minutes 0, 100 and so on, but not a minute later; a best screen from 0 only. */
+    private static ReelScreens edgesOfHundreds() {
+        ReelScreens x = Makers.bare();
+        x.film(1, 10);
+        x.show(1, 0, 0, 0);
+        x.show(1, 0, 91, 0);
+        x.show(1, 0, 200, 0);
+        x.show(1, 2, 25, 0);
+        x.show(1, 2, 1891, 0);
+        x.show(1, 2, 1990, 0);
+        x.set(1, 15);
+        return x;
     }
 
     private static List<Long> valuesOfAnEmptyOne() {
