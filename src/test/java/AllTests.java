@@ -3,7 +3,7 @@ import java.nio.charset.StandardCharsets;
 import java.nio.file.Files;
 import java.nio.file.Path;
 
-/** Runs every test of the project; its arguments are the paths of the program's text and of DOC.md. */
+/** Runs every test of the project; its arguments are the paths of the program's text, DOC.md and README.md. */
 public final class AllTests {
     public static void main(String[] arguments) throws IOException {
         Check check = new Check();
@@ -16,6 +16,7 @@ public final class AllTests {
         new RandomRuns(check).run();
         new FaceTests(check).run(arguments[0]);
         edges(check, textOf(arguments[0]), textOf(arguments[1]));
+        new ReadmeTests(check).run(textOf(arguments[2]), textOf(arguments[1]));
         System.out.println("checks: " + check.passed() + " as due, " + check.failed() + " not");
         System.exit(check.failed() == 0 && check.passed() > 0 ? 0 : 1);
     }
@@ -28,6 +29,7 @@ public final class AllTests {
         Document document = new Document(text);
         Edges edges = new Edges(check, document);
         new EdgeFace(edges, source).run(text);
+        new EdgeFirst(edges).run();
         new EdgeTerms(edges).run();
         new EdgePlan(edges).run();
         new EdgePeople(edges).run();

@@ -5,7 +5,9 @@ import java.util.Map;
 
 /** DOC.md by its headings, and which of its sentences a test has named so far. */
 final class Document {
-    private static final List<String> HEADS = List.of("Films, screens", "Jurors, prizes", "Undo, the snapshot");
+    /** Headings without their sign, and the signs round the face. */
+    private static final List<String> BARE_LINES = List.of("Films, screens", "Jurors, prizes", "Undo, the snapshot",
+            "```java", "}", "```");
 
     private final Map<String, String> sections = new LinkedHashMap<>();
     private final Map<String, List<String>> named = new LinkedHashMap<>();
@@ -27,26 +29,19 @@ final class Document {
         return sections.getOrDefault(heading, "").contains(words);
     }
 
-    /** The sentences and their parts between semicolons, from the terms to the last promise, that no test names. */
+    /** The sentences and their parts between semicolons, from the first line to the last, that no test names. */
     List<String> unnamed() {
         List<String> rest = new ArrayList<>();
         for (Map.Entry<String, String> section : sections.entrySet()) {
-            if (isBinding(section.getKey())) {
-                for (String line : section.getValue().split("\n")) {
-                    addUnnamed(section.getKey(), line, rest);
-                }
+            for (String line : section.getValue().split("\n")) {
+                addUnnamed(section.getKey(), line.strip(), rest);
             }
         }
         return rest;
     }
 
-    private static boolean isBinding(String heading) {
-        return heading.startsWith("Promise ")
-                || List.of("Terms", "Showings", "Guests", "Settings", "Input text", "Exceptions").contains(heading);
-    }
-
     private void addUnnamed(String heading, String line, List<String> rest) {
-        if (HEADS.contains(line)) {
+        if (BARE_LINES.contains(line)) {
             return;
         }
         for (String piece : line.replaceAll("^- ", "").split("(?<=[.;]) ")) {

@@ -7,10 +7,6 @@ final class EdgeTerms {
     }
 
     void run() {
-        e.heading("What it is");
-        e.test("An object is used for at most 512 calls after it has been made", this::all512CallsAnswer);
-        e.heading("The public face");
-        e.test("public static final int NONE = -1;", () -> e.same("NONE", ReelScreens.NONE, -1));
         e.heading("Terms");
         e.test("All numbers are integers, but for a share.", this::aShareIsNoInteger);
         e.test("Minutes are counted from 0 to 1999; a time from a to b has the minutes a to b less 1.",
@@ -86,22 +82,6 @@ final class EdgeTerms {
         e.test("2: minutes for greeting, 0 to 60, at first 10", () -> setting(2, 10));
         e.test("3: minutes between showings of a juror, 0 to 60, at first 5", () -> setting(3, 5));
         e.test("When a setting changes, showings, and what jurors go to, stay.", this::whatASettingLeaves);
-    }
-
-    private void all512CallsAnswer() {
-        ReelScreens x = Makers.bare();
-        for (int i = 0; i < 253; i++) {
-            e.same("show", x.show(0, i % 3, i, 0), 0);
-            e.same("callOff", x.callOff(0), 0);
-        }
-        e.same("the 512th call", x.count(5), 253);
-        ReelScreens y = Makers.empty();
-        int before = 100;
-        for (int i = 0; i < 511; i++) {
-            e.same("seats", y.seats(0, 50 + i % 351), before);
-            before = 50 + i % 351;
-        }
-        e.same("the 512th call", y.undo(), 5);
     }
 
     private void aShareIsNoInteger() {

@@ -52,7 +52,8 @@ final class WildTests {
         }
     }
 
-    private static boolean isNamed(Method method, ReelScreens x, Object[] arguments) {
+    /** Whether a call answers, or throws what its throws clause names. */
+    static boolean isNamed(Method method, ReelScreens x, Object[] arguments) {
         try {
             method.invoke(x, arguments);
             return true;
